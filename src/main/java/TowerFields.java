@@ -243,7 +243,10 @@ public final class TowerFields {
         into.clear();
         for (int powerT = 0; powerT < SIDE; powerT++) {
             for (int powerX = 0; powerX < SIDE; powerX++) {
-                into.row(powerT).put(powerX, stored(place(handle, half, powerT, powerX)));
+                int value = stored(place(handle, half, powerT, powerX));
+                if (value != 0) {
+                    into.row(powerT).put(powerX, value);
+                }
             }
         }
     }
@@ -417,7 +420,8 @@ public final class TowerFields {
         }
 
         void copyOf(Line other) {
-            for (int i = 0; i < numbers.length && i < other.numbers.length; i++) {
+            int last = degree > other.degree ? degree : other.degree;
+            for (int i = 0; i <= last && i < numbers.length && i < other.numbers.length; i++) {
                 numbers[i] = other.numbers[i];
             }
             degree = other.degree;
@@ -574,8 +578,10 @@ public final class TowerFields {
         }
 
         void plusProduct(Poly a, Poly b, int factor) {
-            for (int i = 0; i < ROWS; i++) {
-                for (int j = 0; i + j < ROWS; j++) {
+            int lastA = a.powerT();
+            int lastB = b.powerT();
+            for (int i = 0; i <= lastA && i < ROWS; i++) {
+                for (int j = 0; j <= lastB && i + j < ROWS; j++) {
                     rows[i + j].plusProduct(a.rows[i], b.rows[j], factor);
                 }
             }
@@ -624,6 +630,9 @@ public final class TowerFields {
                 if (!findImage(a, b, point) || image.degree > degree) {
                     continue;
                 }
+                if (image.degree == 0) {
+                    break;
+                }
                 if (image.degree < degree || points == 0) {
                     degree = image.degree;
                     points = 0;
@@ -633,7 +642,7 @@ public final class TowerFields {
                 }
                 boolean fitted = takeIn(point);
                 points++;
-                if (degree > 0 && (fitted || points >= needed) && tryPieced(a, b)) {
+                if ((fitted || points >= needed) && tryPieced(a, b)) {
                     return;
                 }
                 if (points >= needed) {
@@ -642,6 +651,7 @@ public final class TowerFields {
                     points = 0;
                 }
             }
+            // Nothing with t divides both.
             found.clear();
             found.row(0).copyOf(content);
             divideBoth(a, b);
@@ -685,7 +695,7 @@ public final class TowerFields {
 
         private static void imageOf(Poly poly, int point, Line into) {
             into.clear();
-            for (int i = 0; i < ROWS; i++) {
+            for (int i = poly.powerT(); i >= 0; i--) {
                 into.put(i, poly.row(i).valueAt(point));
             }
         }
@@ -715,7 +725,7 @@ public final class TowerFields {
                 return false;
             }
             found.clear();
-            for (int i = 0; i < ROWS; i++) {
+            for (int i = pieced.powerT(); i >= 0; i--) {
                 image.copyOf(pieced.row(i));
                 image.divideBy(piecedContent, quotient);
                 found.row(i).plusProduct(quotient, content, 1);
