@@ -354,7 +354,10 @@ public final class TowerFields {
         slopeBelow.copyOf(divisor.secondRest.row(0));
     }
 
-    /** The factors in which t is, each once; those without t stand whole in the divisor, and so fall out. */
+    /**
+     * The factors in which t is, each once; those without t stand whole in the divisor, and so fall out.
+     * What is left is monic, as the polynomial and the divisor are.
+     */
     private void makeSquareFree(Poly poly) {
         slopeFirst.clear();
         for (int i = 1; i < SIDE; i++) {
@@ -362,7 +365,6 @@ public final class TowerFields {
         }
         divisor.find(poly, slopeFirst);
         poly.copyOf(divisor.firstRest);
-        poly.scale(inverse(poly.head()));
     }
 
     /** Of a polynomial without squares, the divisor shared with its derivation is the special part. */
@@ -370,7 +372,6 @@ public final class TowerFields {
         slopeOfPoly(poly, slopeFirst);
         divisor.find(poly, slopeFirst);
         poly.copyOf(kind == SPECIAL ? divisor.found : divisor.firstRest);
-        poly.scale(inverse(poly.head()));
     }
 
     private static int residue(long value) {

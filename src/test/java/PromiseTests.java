@@ -494,6 +494,9 @@ public final class PromiseTests {
         element(x, "of numbers", x.common(seven, seven), "1", "1");
         element(x, "of 0 and 7", x.common(zero, seven), "1", "1");
         unluckyCommon(x);
+        headsThatRepeat();
+        unluckyEverywhere();
+        unluckyHeads();
         refusedPairs("common", (o, i, j) -> o.common(i, j));
     }
 
@@ -509,11 +512,61 @@ public final class PromiseTests {
         element(x, "of these times xt + 1", x.common(c, d), "1x1t1 + 1", "1");
     }
 
+    /** The number at the heads is 2 at x = 0 and at x = 1. */
+    private static void headsThatRepeat() {
+        TowerFields x = tower(1);
+        int one = x.add(3, 1);
+        int head = x.times(x.add(x.less(2, 0), n(x, 2)), 3);
+        int a = x.times(one, x.add(head, 1));
+        int b = x.times(one, x.add(head, n(x, 3)));
+        element(x, "of what has one head", x.common(a, b), "1t1 + 1", "1");
+    }
+
+    /** c2 xx + c1 x + c0, from the three numbers. */
+    private static int quadratic(TowerFields x, int[] c) {
+        int h = x.add(x.times(n(x, c[2]), 0), n(x, c[1]));
+        return x.add(x.times(h, 0), n(x, c[0]));
+    }
+
+    /** Two products of three factors t - f: at each x from 0 to 13 one f of the first is one of the second. */
+    private static void unluckyEverywhere() {
+        TowerFields x = tower(2);
+        int[][] first = {{0, 0, 0}, {11183, 17296, 23355}, {16523, 5142, 30277}};
+        int[][] second = {{0, 8621, 2598}, {16367, 5193, 30274}, {22514, 14694, 1}};
+        int a = 1;
+        int b = 1;
+        for (int i = 0; i < 3; i++) {
+            a = x.times(a, x.less(3, quadratic(x, first[i])));
+            b = x.times(b, x.less(3, quadratic(x, second[i])));
+        }
+        element(x, "of what meets at 14 places", x.common(a, b), "1", "1");
+        int more = x.add(3, 1);
+        element(x, "of these times t + 1", x.common(x.times(a, more), x.times(b, more)), "1t1 + 1", "1");
+    }
+
+    /** The same with heads: ((xx+1) t - f1)(t - f2) and ((xx+1) t - g1)(t - g2) meet at each x from 0 to 9. */
+    private static void unluckyHeads() {
+        TowerFields x = tower(1);
+        int[][] f = {{12616, 10683, 17718}, {12265, 9721, 7568}, {12616, 19365, 8632}, {1, 4504, 2}};
+        int head = x.times(x.add(2, 1), 3);
+        int a = x.times(x.less(head, quadratic(x, f[0])), x.less(3, quadratic(x, f[1])));
+        int b = x.times(x.less(head, quadratic(x, f[2])), x.less(3, quadratic(x, f[3])));
+        element(x, "of heads that meet at 10 places", x.common(a, b), "1", "1");
+        int more = x.times(0, x.add(3, 0));
+        element(x, "of these times x(t + x)", x.common(x.times(a, more), x.times(b, more)), "1x1t1 + 1x2", "1");
+    }
+
     private static void promise14() {
         TowerFields x = tower(1);
         due("t and t once more", x.same(3, x.top()), true);
         due("one handle", x.same(0, 0), true);
         due("x and t", x.same(0, 3), false);
+        due("1 and 2", x.same(1, n(x, 2)), false);
+        due("x and x + 1", x.same(0, x.add(0, 1)), false);
+        due("1/x and 1/(x+1)", x.same(x.over(1, 0), x.over(1, x.add(0, 1))), false);
+        int six = x.times(power(x, 0, 6), power(x, 3, 6));
+        due("x^6 t^6 and twice that", x.same(six, x.add(six, six)), false);
+        due("1 above x^6 t^6 and 1 above t^6", x.same(x.over(1, six), x.over(1, power(x, 3, 6))), false);
         int q = x.over(0, 3);
         int r = x.over(x.times(0, 0), x.times(0, 3));
         due("x/t and xx/xt", x.same(q, r), true);
