@@ -548,6 +548,54 @@ public final class OracleRuns {
         }
     }
 
+    /** A polynomial with a random number at every power, by Horner's way in t and x. */
+    private static int dense(Model m, TowerFields x, int run, int powerT, int powerX) {
+        int h = -1;
+        for (int i = powerT; i >= 0; i--) {
+            int line = -1;
+            for (int j = powerX; j >= 0; j--) {
+                line = plusNumber(m, x, run, line < 0 ? line : answered(m, x, run, 6, line, 0));
+            }
+            h = h < 0 ? line : answered(m, x, run, 4, answered(m, x, run, 6, h, 1), line);
+        }
+        return h;
+    }
+
+    private static int plusNumber(Model m, TowerFields x, int run, int h) {
+        int number = answered(m, x, run, 0, random(P), 1);
+        return h < 0 ? number : answered(m, x, run, 4, h, number);
+    }
+
+    private static int answered(Model m, TowerFields x, int run, int which, long first, long second) {
+        step(m, x, run, which, first, second);
+        return m.made.size() - 1;
+    }
+
+    /** Fractions with many numbers that share a factor, up to the sixth powers. */
+    private static void denseRun(int run) {
+        Model m = new Model();
+        TowerFields x = new TowerFields();
+        step(m, x, run, 1, 0, 0);
+        step(m, x, run, 2, 0, 1 + run % 2);
+        int first = dense(m, x, run, 1 + random(2), 1 + random(2));
+        int second = dense(m, x, run, 1 + random(2), 1 + random(2));
+        int third = dense(m, x, run, random(2), 1 + random(3));
+        int square = answered(m, x, run, 6, first, first);
+        int above = answered(m, x, run, 6, square, second);
+        int below = answered(m, x, run, 6, first, third);
+        for (int which : new int[] {11, 7, 8, 9, 6, 4, 5}) {
+            step(m, x, run, which, above, below);
+            step(m, x, run, which, below, above);
+            step(m, x, run, which, third, first);
+        }
+        int q = answered(m, x, run, 7, third, square);
+        for (int kind = 0; kind < 5; kind++) {
+            step(m, x, run, 10, q, kind);
+        }
+        step(m, x, run, 8, q, 0);
+        step(m, x, run, 9, q, 0);
+    }
+
     public static void main(String[] args) {
         int runs = args.length > 0 ? Integer.parseInt(args[0]) : 120;
         for (int run = 0; run < runs; run++) {
@@ -555,6 +603,8 @@ public final class OracleRuns {
             mixedRun(run, 40 + run % 7 * 30, 4 + run % 12);
             seed = 50000 + run;
             factorRun(run);
+            seed = 90000 + run;
+            denseRun(run);
         }
         if (args.length > 0) {
             System.out.println(Arrays.toString(answers) + ", refused " + refused);

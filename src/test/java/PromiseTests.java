@@ -1,105 +1,8 @@
 import java.math.BigInteger;
 
 /** For each promise of the document: ordinary inputs, the edges that it names, and wrong inputs. */
-public final class PromiseTests {
-    private static final int P = 32003;
+public final class PromiseTests extends Checks {
     private static final int FIFTH = 19202;
-    private static final String INDEX = "IndexOutOfBoundsException";
-    private static final String STATE = "IllegalStateException";
-    private static final String ARGUMENT = "IllegalArgumentException";
-    private static final String ARITHMETIC = "ArithmeticException";
-
-    private static int wrong = 0;
-    private static int looked = 0;
-    private static int promise = 0;
-
-    private interface Call {
-        long run();
-    }
-
-    private static void due(String what, Object got, Object want) {
-        looked++;
-        if (!got.equals(want)) {
-            wrong++;
-            System.out.println("promise " + promise + ": " + what + " answered " + got + ", due is " + want);
-        }
-    }
-
-    /** The call throws exactly this, and changes nothing. */
-    private static void refused(TowerFields x, String what, String name, Call call) {
-        String before = picture(x);
-        String got;
-        try {
-            got = "" + call.run();
-        } catch (RuntimeException e) {
-            got = e.getClass().getSimpleName();
-        }
-        due(what, got, name);
-        due(what + ", then the state", picture(x), before);
-    }
-
-    /** All that can be seen of an object without changing it. */
-    private static String picture(TowerFields x) {
-        StringBuilder s = new StringBuilder();
-        s.append(x.count()).append(':');
-        for (int h = 0; h < x.count(); h++) {
-            s.append(text(x, h, 0)).append(" / ").append(text(x, h, 1)).append(x.low(h)).append(x.constant(h));
-        }
-        return s.toString();
-    }
-
-    /** The polynomial above or below, its terms falling by powers of t, then of x. */
-    private static String text(TowerFields x, int h, int part) {
-        StringBuilder s = new StringBuilder();
-        for (int t = 6; t >= 0; t--) {
-            for (int p = 6; p >= 0; p--) {
-                int n = x.at(h, t, p, part);
-                if (n != 0) {
-                    s.append(s.length() > 0 ? " + " : "");
-                    s.append(n > P / 2 ? n - P : n);
-                    s.append(p == 0 ? "" : "x" + p).append(t == 0 ? "" : "t" + t);
-                }
-            }
-        }
-        return s.length() == 0 ? "0" : s.toString();
-    }
-
-    private static void element(TowerFields x, String what, int handle, String above, String below) {
-        due(what + " made the last", handle, x.count() - 1);
-        due(what + " above", text(x, handle, 0), above);
-        due(what + " below", text(x, handle, 1), below);
-    }
-
-    private static int n(TowerFields x, long value) {
-        return x.number(value, 1);
-    }
-
-    private static int power(TowerFields x, int a, int e) {
-        int h = n(x, 1);
-        for (int i = 0; i < e; i++) {
-            h = x.times(h, a);
-        }
-        return h;
-    }
-
-    /** A tower in which 0 is x, 1 is 1, 2 is the element e, 3 is t. */
-    private static TowerFields tower(int kind) {
-        TowerFields x = new TowerFields();
-        x.base();
-        n(x, 1);
-        x.times(0, 0);
-        x.letter(kind, kind == 1 ? 0 : 2);
-        return x;
-    }
-
-    private static TowerFields full(int kind) {
-        TowerFields x = tower(kind);
-        x.less(1, 1);
-        while (x.count() < 120) {
-            x.base();
-        }
-        return x;
-    }
 
     private static void promise1() {
         TowerFields x = new TowerFields();
@@ -249,10 +152,6 @@ public final class PromiseTests {
         refused(z, "top before t at 120", STATE, () -> z.top());
     }
 
-    private interface Pair {
-        int run(TowerFields x, int a, int b);
-    }
-
     /** What every call with two elements that makes one refuses. */
     private static void refusedPairs(String name, Pair pair) {
         TowerFields x = tower(1);
@@ -351,10 +250,6 @@ public final class PromiseTests {
         refused(x, "1/x^12", STATE, () -> x.over(d, x6));
         refused(x, "x^12", STATE, () -> x.over(x6, d));
         refusedPairs("over", (o, i, j) -> o.over(i, j));
-    }
-
-    private interface Single {
-        int run(TowerFields x, int a);
     }
 
     private static void refusedSingles(String name, Single single) {
@@ -675,13 +570,6 @@ public final class PromiseTests {
             PromiseTests::promise8, PromiseTests::promise9, PromiseTests::promise10, PromiseTests::promise11,
             PromiseTests::promise12, PromiseTests::promise13, PromiseTests::promise14, PromiseTests::promise15,
             PromiseTests::promise16, PromiseTests::promise17, PromiseTests::promise18};
-        for (Runnable one : promises) {
-            promise++;
-            one.run();
-        }
-        System.out.println("PromiseTests: " + looked + " answers, " + wrong + " wrong");
-        if (wrong > 0) {
-            System.exit(1);
-        }
+        runAll("PromiseTests", promises);
     }
 }

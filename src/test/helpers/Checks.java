@@ -1,0 +1,127 @@
+/** What the tests by hand share: comparing answers, telling an element as a text, towers to begin with. */
+abstract class Checks {
+    static final int P = 32003;
+    static final String INDEX = "IndexOutOfBoundsException";
+    static final String STATE = "IllegalStateException";
+    static final String ARGUMENT = "IllegalArgumentException";
+    static final String ARITHMETIC = "ArithmeticException";
+
+    private static int wrong = 0;
+    private static int looked = 0;
+    private static int promise = 0;
+
+    interface Call {
+        long run();
+    }
+
+    /** A call with two elements that makes one. */
+    interface Pair {
+        int run(TowerFields x, int a, int b);
+    }
+
+    /** A call with one element that makes one. */
+    interface Single {
+        int run(TowerFields x, int a);
+    }
+
+    static void due(String what, Object got, Object want) {
+        looked++;
+        if (!got.equals(want)) {
+            wrong++;
+            System.out.println("promise " + promise + ": " + what + " answered " + got + ", due is " + want);
+        }
+    }
+
+    /** The call throws exactly this, and changes nothing. */
+    static void refused(TowerFields x, String what, String name, Call call) {
+        String before = picture(x);
+        String got;
+        try {
+            got = "" + call.run();
+        } catch (RuntimeException e) {
+            got = e.getClass().getSimpleName();
+        }
+        due(what, got, name);
+        due(what + ", then the state", picture(x), before);
+    }
+
+    /** All that can be seen of an object without changing it. */
+    static String picture(TowerFields x) {
+        StringBuilder s = new StringBuilder();
+        s.append(x.count()).append(':');
+        for (int h = 0; h < x.count(); h++) {
+            s.append(text(x, h, 0)).append(" / ").append(text(x, h, 1)).append(x.low(h)).append(x.constant(h));
+        }
+        return s.toString();
+    }
+
+    /** The polynomial above or below, its terms falling by powers of t, then of x. */
+    static String text(TowerFields x, int h, int part) {
+        StringBuilder s = new StringBuilder();
+        for (int t = 6; t >= 0; t--) {
+            for (int p = 6; p >= 0; p--) {
+                int n = x.at(h, t, p, part);
+                if (n != 0) {
+                    s.append(s.length() > 0 ? " + " : "");
+                    s.append(n > P / 2 ? n - P : n);
+                    s.append(p == 0 ? "" : "x" + p).append(t == 0 ? "" : "t" + t);
+                }
+            }
+        }
+        return s.length() == 0 ? "0" : s.toString();
+    }
+
+    static void element(TowerFields x, String what, int handle, String above, String below) {
+        due(what + " made the last", handle, x.count() - 1);
+        due(what + " above", text(x, handle, 0), above);
+        due(what + " below", text(x, handle, 1), below);
+    }
+
+    static int n(TowerFields x, long value) {
+        return x.number(value, 1);
+    }
+
+    static int power(TowerFields x, int a, int e) {
+        int h = n(x, 1);
+        for (int i = 0; i < e; i++) {
+            h = x.times(h, a);
+        }
+        return h;
+    }
+
+    /** A tower in which 0 is x, 1 is 1, 2 is the element xx, 3 is t: log x or exp xx. */
+    static TowerFields tower(int kind) {
+        TowerFields x = new TowerFields();
+        x.base();
+        n(x, 1);
+        x.times(0, 0);
+        x.letter(kind, kind == 1 ? 0 : 2);
+        return x;
+    }
+
+    /** The same with 0 at 4, and x once more up to as many elements as wanted. */
+    static TowerFields filled(int kind, int wanted) {
+        TowerFields x = tower(kind);
+        x.less(1, 1);
+        while (x.count() < wanted) {
+            x.base();
+        }
+        return x;
+    }
+
+    static TowerFields full(int kind) {
+        return filled(kind, 120);
+    }
+
+    /** Runs the tests of promise 1, 2, .. in turn; fails if an answer was wrong. */
+    static void runAll(String name, Runnable[] promises) {
+        for (Runnable one : promises) {
+            promise++;
+            one.run();
+        }
+        System.out.println(name + ": " + looked + " answers, " + wrong + " wrong");
+        if (wrong > 0) {
+            System.exit(1);
+        }
+    }
+}
