@@ -6,6 +6,12 @@ abstract class Checks {
     static final String ARGUMENT = "IllegalArgumentException";
     static final String ARITHMETIC = "ArithmeticException";
 
+    static final String NONE = "";
+    static final String LOG = "log 1x1";
+    static final String EXP = "exp 1x1";
+    static final String[] LETTERS = {NONE, LOG, EXP};
+    static final String[] BOTH = {LOG, EXP};
+
     private static int wrong = 0;
     private static int looked = 0;
     private static int promise = 0;
@@ -113,14 +119,34 @@ abstract class Checks {
         return filled(kind, 120);
     }
 
-    /** Runs the tests of promise 1, 2, .. in turn; fails if an answer was wrong. */
+    /** With a letter, a call of one element or two, as texts: what is due is an element, an answer or an exception. */
+    static void row(String letter, String call, String first, String second, String due) {
+        Bench bench = new Bench(letter);
+        int a = bench.make(first);
+        int b = second.isEmpty() ? a : bench.make(second);
+        String what = letter + ": " + call + " of " + first + (second.isEmpty() ? "" : " and " + second);
+        String[] before = picture(bench.tower).split(":", 2);
+        due(what, bench.answer(call, a, b), due);
+        String[] after = picture(bench.tower).split(":", 2);
+        int more = due.contains(" / ") ? 1 : 0;
+        due(what + ", then count", after[0], "" + (Integer.parseInt(before[0]) + more));
+        due(what + ", then what stood before", after[1].startsWith(before[1]), true);
+    }
+
+    /** Runs the tests of promise 1, 2, .. in turn. */
     static void runAll(String name, Runnable[] promises) {
         for (Runnable one : promises) {
             promise++;
             one.run();
         }
-        System.out.println(name + ": " + looked + " answers, " + wrong + " wrong");
-        if (wrong > 0) {
+        finish(name);
+    }
+
+    /** Fails if an answer was wrong, here or beside a model. */
+    static void finish(String name) {
+        int all = wrong + Match.wrong();
+        System.out.println(name + ": " + (looked + Match.answers()) + " answers, " + all + " wrong");
+        if (all > 0) {
             System.exit(1);
         }
     }

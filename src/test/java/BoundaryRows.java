@@ -3,26 +3,8 @@
  * an element, another answer, or the name of an exception.
  */
 public final class BoundaryRows extends Checks {
-    private static final String NONE = "";
-    private static final String LOG = "log 1x1";
-    private static final String EXP = "exp 1x1";
-    private static final String[] LETTERS = {NONE, LOG, EXP};
-    private static final String[] BOTH = {LOG, EXP};
     private static final String GREAT = STATE;
     private static final String HIGH = "1x6t6";
-
-    private static void row(String letter, String call, String first, String second, String due) {
-        Bench bench = new Bench(letter);
-        int a = bench.make(first);
-        int b = second.isEmpty() ? a : bench.make(second);
-        String what = letter + ": " + call + " of " + first + (second.isEmpty() ? "" : " and " + second);
-        String[] before = picture(bench.tower).split(":", 2);
-        due(what, bench.answer(call, a, b), due);
-        String[] after = picture(bench.tower).split(":", 2);
-        int more = due.contains(" / ") ? 1 : 0;
-        due(what + ", then count", after[0], "" + (Integer.parseInt(before[0]) + more));
-        due(what + ", then what stood before", after[1].startsWith(before[1]), true);
-    }
 
     /** The same with x and t changing places, where the derivation plays no part. */
     private static void turned(String call, String first, String second, String due) {

