@@ -1,6 +1,6 @@
 /** An object with x and, where wanted, t, and elements made from texts: "1x2t1 + -3 / 1x1" is (xx t - 3) / x. */
 final class Bench {
-    final TowerFields tower = new TowerFields();
+    final Tower tower = new Tower();
     final int x = tower.base();
     final int t;
 
@@ -36,34 +36,15 @@ final class Bench {
         return h;
     }
 
-    /** What a call answers: the element that it makes, else its answer or the name of what it throws. */
-    String answer(String call, int a, int b) {
-        String got;
-        try {
-            got = run(call, a, b);
-        } catch (RuntimeException e) {
-            return e.getClass().getSimpleName();
-        }
-        return got.equals("" + (tower.count() - 1)) ? told(tower.count() - 1) : got;
+    /** What a call of one element or two answers: the element that it makes, else its answer or what it throws. */
+    String answer(String call, long... w) {
+        int made = tower.count();
+        String got = call.startsWith("part ") ? tower.answer("part", w[0], call.charAt(5) - '0') : tower.answer(call, w);
+        boolean truth = call.equals("same") || call.equals("constant") || call.equals("low");
+        return truth ? "" + got.equals("1") : got.equals("" + made) ? told(made) : got;
     }
 
     String told(int handle) {
         return Checks.text(tower, handle, 0) + " / " + Checks.text(tower, handle, 1);
-    }
-
-    private String run(String call, int a, int b) {
-        switch (call) {
-            case "add": return "" + tower.add(a, b);
-            case "less": return "" + tower.less(a, b);
-            case "times": return "" + tower.times(a, b);
-            case "over": return "" + tower.over(a, b);
-            case "common": return "" + tower.common(a, b);
-            case "derive": return "" + tower.derive(a);
-            case "logarithmic": return "" + tower.logarithmic(a);
-            case "same": return "" + tower.same(a, b);
-            case "constant": return "" + tower.constant(a);
-            case "low": return "" + tower.low(a);
-            default: return "" + tower.part(a, call.charAt(call.length() - 1) - '0');
-        }
     }
 }

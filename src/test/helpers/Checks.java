@@ -12,6 +12,9 @@ abstract class Checks {
     static final String[] LETTERS = {NONE, LOG, EXP};
     static final String[] BOTH = {LOG, EXP};
 
+    /** What `picture` asks of an element. */
+    private static final int LOOKS = 100;
+
     private static int wrong = 0;
     private static int looked = 0;
     private static int promise = 0;
@@ -22,12 +25,12 @@ abstract class Checks {
 
     /** A call with two elements that makes one. */
     interface Pair {
-        int run(TowerFields x, int a, int b);
+        int run(Tower x, int a, int b);
     }
 
     /** A call with one element that makes one. */
     interface Single {
-        int run(TowerFields x, int a);
+        int run(Tower x, int a);
     }
 
     static void due(String what, Object got, Object want) {
@@ -39,8 +42,8 @@ abstract class Checks {
     }
 
     /** The call throws exactly this, and changes nothing. */
-    static void refused(TowerFields x, String what, String name, Call call) {
-        String before = picture(x);
+    static void refused(Tower x, String what, String name, Call call) {
+        String before = x.seen() == null ? picture(x) : x.seen();
         String got;
         try {
             got = "" + call.run();
@@ -48,21 +51,28 @@ abstract class Checks {
             got = e.getClass().getSimpleName();
         }
         due(what, got, name);
-        due(what + ", then the state", picture(x), before);
+        String after = picture(x);
+        due(what + ", then the state", after, before);
+        x.remember(after);
     }
 
-    /** All that can be seen of an object without changing it. */
-    static String picture(TowerFields x) {
+    /** All that can be seen of an object without changing it, looked at in others in the same state. */
+    static String picture(Tower x) {
         StringBuilder s = new StringBuilder();
-        s.append(x.count()).append(':');
-        for (int h = 0; h < x.count(); h++) {
-            s.append(text(x, h, 0)).append(" / ").append(text(x, h, 1)).append(x.low(h)).append(x.constant(h));
+        Tower copy = x.again();
+        int count = copy.count();
+        s.append(count).append(':');
+        for (int h = 0; h < count; h++) {
+            if (copy.callsLeft() < LOOKS) {
+                copy = x.again();
+            }
+            s.append(text(copy, h, 0)).append(" / ").append(text(copy, h, 1)).append(copy.low(h)).append(copy.constant(h));
         }
         return s.toString();
     }
 
     /** The polynomial above or below, its terms falling by powers of t, then of x. */
-    static String text(TowerFields x, int h, int part) {
+    static String text(Tower x, int h, int part) {
         StringBuilder s = new StringBuilder();
         for (int t = 6; t >= 0; t--) {
             for (int p = 6; p >= 0; p--) {
@@ -77,17 +87,17 @@ abstract class Checks {
         return s.length() == 0 ? "0" : s.toString();
     }
 
-    static void element(TowerFields x, String what, int handle, String above, String below) {
+    static void element(Tower x, String what, int handle, String above, String below) {
         due(what + " made the last", handle, x.count() - 1);
         due(what + " above", text(x, handle, 0), above);
         due(what + " below", text(x, handle, 1), below);
     }
 
-    static int n(TowerFields x, long value) {
+    static int n(Tower x, long value) {
         return x.number(value, 1);
     }
 
-    static int power(TowerFields x, int a, int e) {
+    static int power(Tower x, int a, int e) {
         int h = n(x, 1);
         for (int i = 0; i < e; i++) {
             h = x.times(h, a);
@@ -96,8 +106,8 @@ abstract class Checks {
     }
 
     /** A tower in which 0 is x, 1 is 1, 2 is the element xx, 3 is t: log x or exp xx. */
-    static TowerFields tower(int kind) {
-        TowerFields x = new TowerFields();
+    static Tower tower(int kind) {
+        Tower x = new Tower();
         x.base();
         n(x, 1);
         x.times(0, 0);
@@ -106,8 +116,8 @@ abstract class Checks {
     }
 
     /** The same with 0 at 4, and x once more up to as many elements as wanted. */
-    static TowerFields filled(int kind, int wanted) {
-        TowerFields x = tower(kind);
+    static Tower filled(int kind, int wanted) {
+        Tower x = tower(kind);
         x.less(1, 1);
         while (x.count() < wanted) {
             x.base();
@@ -115,7 +125,7 @@ abstract class Checks {
         return x;
     }
 
-    static TowerFields full(int kind) {
+    static Tower full(int kind) {
         return filled(kind, 120);
     }
 

@@ -3,7 +3,7 @@ final class Match {
     private static int wrong = 0;
     private static int answers = 0;
 
-    final TowerFields tower = new TowerFields();
+    final Tower tower = new Tower();
     final Model model = new Model();
     private final String name;
 
@@ -37,7 +37,7 @@ final class Match {
         calls++;
         answers++;
         String due = model.answer(call, w);
-        got = answer(tower, call, w);
+        got = tower.answer(call, w);
         compare(call, w, due);
         return model.count() - 1;
     }
@@ -62,38 +62,5 @@ final class Match {
             s.append(i > 0 ? ", " : "").append(w[i]);
         }
         return s.append(')').toString();
-    }
-
-    static String answer(TowerFields x, String call, long... w) {
-        try {
-            return "" + run(x, call, w);
-        } catch (RuntimeException e) {
-            return e.getClass().getSimpleName();
-        }
-    }
-
-    private static long run(TowerFields x, String call, long[] w) {
-        int a = w.length > 0 ? (int) w[0] : 0;
-        int b = w.length > 1 ? (int) w[1] : 0;
-        switch (call) {
-            case "number": return x.number(w[0], w[1]);
-            case "base": return x.base();
-            case "letter": return x.letter(a, b);
-            case "top": return x.top();
-            case "add": return x.add(a, b);
-            case "less": return x.less(a, b);
-            case "times": return x.times(a, b);
-            case "over": return x.over(a, b);
-            case "derive": return x.derive(a);
-            case "logarithmic": return x.logarithmic(a);
-            case "part": return x.part(a, b);
-            case "common": return x.common(a, b);
-            case "same": return x.same(a, b) ? 1 : 0;
-            case "constant": return x.constant(a) ? 1 : 0;
-            case "low": return x.low(a) ? 1 : 0;
-            case "at": return x.at(a, b, (int) w[2], (int) w[3]);
-            case "count": return x.count();
-            default: throw new IllegalArgumentException("no such call: " + call);
-        }
     }
 }

@@ -12,15 +12,15 @@ public final class BoundaryTests extends Checks {
     private static final long LEAST = -9223372036854748952L;
 
     private interface Maker {
-        int run(TowerFields x);
+        int run(Tower x);
     }
 
     /** No letter (0) or a letter of a kind; x is 0, what was made last is another element. */
-    private static TowerFields begun(int kind) {
+    private static Tower begun(int kind) {
         if (kind != 0) {
             return tower(kind);
         }
-        TowerFields x = new TowerFields();
+        Tower x = new Tower();
         x.base();
         n(x, 1);
         x.times(0, 0);
@@ -28,8 +28,8 @@ public final class BoundaryTests extends Checks {
     }
 
     /** x's without a letter. */
-    private static TowerFields bases(int wanted) {
-        TowerFields x = new TowerFields();
+    private static Tower bases(int wanted) {
+        Tower x = new Tower();
         while (x.count() < wanted) {
             x.base();
         }
@@ -37,18 +37,18 @@ public final class BoundaryTests extends Checks {
     }
 
     /** Handles that no element has, the one behind the last first; with some whose places would wrap around. */
-    private static int[] outside(TowerFields x) {
+    private static int[] outside(Tower x) {
         return new int[] {x.count(), -1, x.count() + 1, -2, MOST, MOST + 1, MIN, MAX, 1 << 16, 1 << 30, MAX / 98 + 1,
             MAX / 49 + 1, -(1 << 30)};
     }
 
-    private static void top120(TowerFields x, String what, Call call) {
+    private static void top120(Tower x, String what, Call call) {
         refused(x, what + " behind the 120th", STATE, call);
         due(what + ", then count", x.count(), MOST);
     }
 
     /** The call makes the 120th element, and is refused where it wants a 121st. */
-    private static void lastOne(String name, TowerFields x, Maker call) {
+    private static void lastOne(String name, Tower x, Maker call) {
         due(name + ": count before", x.count(), MOST - 1);
         String before = picture(x).split(":", 2)[1];
         due(name + " makes the 120th", call.run(x), MOST - 1);
@@ -65,7 +65,7 @@ public final class BoundaryTests extends Checks {
     /** "IndexOutOfBoundsException: no such element", of a call with two; it stands first. */
     private static void handlesOfPair(String name, Pair call) {
         for (int kind = 0; kind <= 2; kind++) {
-            TowerFields x = begun(kind);
+            Tower x = begun(kind);
             for (int bad : outside(x)) {
                 refused(x, name + "(" + bad + ", 0)", INDEX, () -> call.run(x, bad, 0));
                 refused(x, name + "(0, " + bad + ")", INDEX, () -> call.run(x, 0, bad));
@@ -75,7 +75,7 @@ public final class BoundaryTests extends Checks {
             taken(name + "(last, 0)", call.run(x, x.count() - 1, 0), x.count() - 1);
             taken(name + "(0, 0)", call.run(x, 0, 0), x.count() - 1);
         }
-        TowerFields none = new TowerFields();
+        Tower none = new Tower();
         refused(none, name + "(0, 0) of a new object", INDEX, () -> call.run(none, 0, 0));
         refused(none, name + "(-1, -1) of a new object", INDEX, () -> call.run(none, -1, -1));
     }
@@ -83,7 +83,7 @@ public final class BoundaryTests extends Checks {
     private static void roomOfPair(String name, Pair call) {
         for (int kind = 1; kind <= 2; kind++) {
             lastOne(name, filled(kind, MOST - 1), x -> call.run(x, 0, x.count() - 1));
-            TowerFields y = full(kind);
+            Tower y = full(kind);
             top120(y, name + "(0, 119)", () -> call.run(y, 0, 119));
             top120(y, name + "(119, 0)", () -> call.run(y, 119, 0));
             top120(y, name + " of t and 0", () -> call.run(y, 3, 4));
@@ -93,7 +93,7 @@ public final class BoundaryTests extends Checks {
                 refused(y, name + "(119, " + bad + ") at 120", INDEX, () -> call.run(y, 119, bad));
             }
         }
-        TowerFields z = bases(MOST);
+        Tower z = bases(MOST);
         top120(z, name + " without t", () -> call.run(z, 0, 119));
     }
 
@@ -105,14 +105,14 @@ public final class BoundaryTests extends Checks {
     /** The same of a call with one. */
     private static void handlesOfSingle(String name, Single call) {
         for (int kind = 0; kind <= 2; kind++) {
-            TowerFields x = begun(kind);
+            Tower x = begun(kind);
             for (int bad : outside(x)) {
                 refused(x, name + "(" + bad + ")", INDEX, () -> call.run(x, bad));
             }
             taken(name + "(last)", call.run(x, x.count() - 1), x.count() - 1);
             taken(name + "(0)", call.run(x, 0), x.count() - 1);
         }
-        TowerFields none = new TowerFields();
+        Tower none = new Tower();
         refused(none, name + "(0) of a new object", INDEX, () -> call.run(none, 0));
         refused(none, name + "(-1) of a new object", INDEX, () -> call.run(none, -1));
     }
@@ -120,7 +120,7 @@ public final class BoundaryTests extends Checks {
     private static void roomOfSingle(String name, Single call) {
         for (int kind = 1; kind <= 2; kind++) {
             lastOne(name, filled(kind, MOST - 1), x -> call.run(x, x.count() - 1));
-            TowerFields y = full(kind);
+            Tower y = full(kind);
             for (int h : new int[] {0, 1, 3, 4, 119}) {
                 top120(y, name + "(" + h + ")", () -> call.run(y, h));
             }
@@ -128,7 +128,7 @@ public final class BoundaryTests extends Checks {
                 refused(y, name + "(" + bad + ") at 120", INDEX, () -> call.run(y, bad));
             }
         }
-        TowerFields z = bases(MOST);
+        Tower z = bases(MOST);
         top120(z, name + " without t", () -> call.run(z, 119));
     }
 
@@ -140,7 +140,7 @@ public final class BoundaryTests extends Checks {
     /** A call that only looks: it answers at 120 elements too, of the first and of the last. */
     private static void looks(String name, Single call, int ofX, int ofLast) {
         for (int kind = 0; kind <= 2; kind++) {
-            TowerFields x = begun(kind);
+            Tower x = begun(kind);
             n(x, 5);
             for (int i = 0; i < 2; i++) {
                 for (int bad : outside(x)) {
@@ -155,17 +155,17 @@ public final class BoundaryTests extends Checks {
                 }
             }
         }
-        TowerFields none = new TowerFields();
+        Tower none = new Tower();
         refused(none, name + "(0) of a new object", INDEX, () -> call.run(none, 0));
         refused(none, name + "(-1) of a new object", INDEX, () -> call.run(none, -1));
     }
 
     /** "No elements, no letter t", of each new object, whatever was done with others. */
     private static void promise1() {
-        TowerFields before = new TowerFields();
-        TowerFields other = full(1);
+        Tower before = new Tower();
+        Tower other = full(1);
         String otherBefore = picture(other);
-        for (TowerFields x : new TowerFields[] {before, new TowerFields()}) {
+        for (Tower x : new Tower[] {before, new Tower()}) {
             due("count", x.count(), 0);
             for (int h : new int[] {0, -1, 1, 119, 120}) {
                 refused(x, "low(" + h + ")", INDEX, () -> x.low(h) ? 1 : 0);
@@ -193,7 +193,7 @@ public final class BoundaryTests extends Checks {
             {LEAST + 1, 1, 1}, {LEAST - 1, 1, 32002}, {1, GREATEST + 1, 1}, {1, GREATEST - 1, 32002},
             {1, LEAST + 1, 1}, {1, LEAST - 1, 32002}, {GREATEST, GREATEST - 1, 0}, {1L << 32, 1, 4681},
             {-(1L << 32), 1, 27322}, {4294967297L, 4294967297L, 1}, {32002, 32002, 1}};
-        TowerFields x = new TowerFields();
+        Tower x = new Tower();
         for (int i = 0; i < rows.length; i++) {
             String what = "number(" + rows[i][0] + ", " + rows[i][1] + ")";
             due(what, x.number(rows[i][0], rows[i][1]), i);
@@ -206,7 +206,7 @@ public final class BoundaryTests extends Checks {
 
     private static void promise2() {
         ends();
-        TowerFields x = tower(1);
+        Tower x = tower(1);
         for (long below : new long[] {0, P, -P, 2L * P, -2L * P, GREATEST, LEAST, (long) P << 32, -((long) P << 32)}) {
             for (long above : new long[] {0, 1, -1, P, Long.MAX_VALUE, Long.MIN_VALUE}) {
                 refused(x, "number(" + above + ", " + below + ")", ARITHMETIC, () -> x.number(above, below));
@@ -214,7 +214,7 @@ public final class BoundaryTests extends Checks {
         }
         lastOne("number", filled(1, MOST - 1), y -> y.number(3, 2));
         lastOne("number without t", bases(MOST - 1), y -> y.number(0, -1));
-        TowerFields z = full(2);
+        Tower z = full(2);
         top120(z, "number(1, 0)", () -> z.number(1, 0));
         top120(z, "number(0, 32003)", () -> z.number(0, P));
         top120(z, "number(least, greatest)", () -> z.number(LEAST, GREATEST));
@@ -222,7 +222,7 @@ public final class BoundaryTests extends Checks {
 
     private static void promise3() {
         for (int kind = 0; kind <= 2; kind++) {
-            TowerFields x = begun(kind);
+            Tower x = begun(kind);
             element(x, "base", x.base(), "1x1", "1");
             due("base is x", x.same(0, x.count() - 1), true);
         }
@@ -233,7 +233,7 @@ public final class BoundaryTests extends Checks {
 
     /** "there is no such kind, or the element can't be taken"; then t isn't set, and can be. */
     private static void lettersNotTaken(int kind) {
-        TowerFields x = new TowerFields();
+        Tower x = new Tower();
         x.base();
         n(x, 0);
         n(x, 1);
@@ -258,7 +258,7 @@ public final class BoundaryTests extends Checks {
 
     /** "t is a letter once it is set, for good". */
     private static void lettersTwice(int kind) {
-        TowerFields x = tower(kind);
+        Tower x = tower(kind);
         n(x, 7);
         for (int again : new int[] {1, 2, 0, 3, -1, MIN, MAX}) {
             for (int e = 0; e < x.count(); e++) {
@@ -271,7 +271,7 @@ public final class BoundaryTests extends Checks {
         }
         element(x, "t's derivation stays", x.derive(3), kind == 1 ? "1" : "2x1t1", kind == 1 ? "1x1" : "1");
         element(x, "top stays", x.top(), "1t1", "1");
-        TowerFields y = full(kind);
+        Tower y = full(kind);
         top120(y, "letter again", () -> y.letter(kind, 0));
         top120(y, "letter of no kind again", () -> y.letter(0, 4));
         for (int bad : outside(y)) {
@@ -281,7 +281,7 @@ public final class BoundaryTests extends Checks {
 
     private static void roomOfLetters(int kind) {
         lastOne("letter", bases(MOST - 1), x -> x.letter(kind, 118));
-        TowerFields x = bases(MOST - 1);
+        Tower x = bases(MOST - 1);
         n(x, 1);
         top120(x, "letter", () -> x.letter(kind, 0));
         top120(x, "letter of a number", () -> x.letter(kind, 119));
@@ -290,9 +290,9 @@ public final class BoundaryTests extends Checks {
         refused(x, "letter of no kind and 120", INDEX, () -> x.letter(0, MOST));
         refused(x, "letter of 120", INDEX, () -> x.letter(kind, MOST));
         refused(x, "letter of -1", INDEX, () -> x.letter(kind, -1));
-        TowerFields y = bases(1);
+        Tower y = bases(1);
         element(y, "letter of the first, which is the last", y.letter(kind, 0), "1t1", "1");
-        TowerFields z = new TowerFields();
+        Tower z = new Tower();
         refused(z, "letter of a new object", INDEX, () -> z.letter(kind, 0));
         refused(z, "letter of no kind, of a new object", INDEX, () -> z.letter(0, 0));
     }
@@ -307,7 +307,7 @@ public final class BoundaryTests extends Checks {
 
     private static void promise5() {
         for (int kind = 1; kind <= 2; kind++) {
-            TowerFields x = begun(0);
+            Tower x = begun(0);
             refused(x, "top before", ARGUMENT, () -> x.top());
             int k = kind;
             refused(x, "letter of a number", ARGUMENT, () -> x.letter(k, 1));
@@ -318,11 +318,11 @@ public final class BoundaryTests extends Checks {
             due("they are t", x.same(3, 4) && x.same(3, 5), true);
             lastOne("top", filled(kind, MOST - 1), y -> y.top());
         }
-        TowerFields z = bases(MOST - 1);
+        Tower z = bases(MOST - 1);
         refused(z, "top before at 119", ARGUMENT, () -> z.top());
         z.base();
         top120(z, "top before", () -> z.top());
-        TowerFields none = new TowerFields();
+        Tower none = new Tower();
         refused(none, "top of a new object", ARGUMENT, () -> none.top());
     }
 
@@ -336,7 +336,7 @@ public final class BoundaryTests extends Checks {
 
     private static void promise8() {
         pair("times", (x, a, b) -> x.times(a, b));
-        TowerFields x = filled(1, 110);
+        Tower x = filled(1, 110);
         int high = power(x, 0, 6);
         due("count before what is too great", x.count(), 117);
         for (int i = 0; i < 5; i++) {
@@ -352,7 +352,7 @@ public final class BoundaryTests extends Checks {
     /** "120 are there (also where a call answers -1)": -1 needs room, and takes none. */
     private static void nothingMade(String name, Maker call, Maker other) {
         for (int kind = 1; kind <= 2; kind++) {
-            TowerFields x = filled(kind, MOST - 2);
+            Tower x = filled(kind, MOST - 2);
             for (int stand = MOST - 2; stand < MOST; stand++) {
                 String before = picture(x);
                 due(name + " at " + stand, call.run(x), -1);
@@ -368,7 +368,7 @@ public final class BoundaryTests extends Checks {
         nothingMade("over(x, 0)", x -> x.over(0, 4), x -> x.over(0, 0));
         nothingMade("over(0, 0)", x -> x.over(4, 4), x -> x.over(4, 0));
         nothingMade("over(t, 0)", x -> x.over(3, 4), x -> x.over(3, 3));
-        TowerFields y = filled(1, 5);
+        Tower y = filled(1, 5);
         for (int bad : outside(y)) {
             refused(y, "over(" + bad + ", the element that is 0)", INDEX, () -> y.over(bad, 4));
         }
@@ -390,7 +390,7 @@ public final class BoundaryTests extends Checks {
         }
         for (int bad : new int[] {-1, 5, -2, 6, MIN, MAX, 1 << 16, 256}) {
             for (int letter = 0; letter <= 2; letter++) {
-                TowerFields x = begun(letter);
+                Tower x = begun(letter);
                 for (int h = 0; h < x.count(); h++) {
                     int a = h;
                     refused(x, "part(" + h + ", " + bad + ")", ARGUMENT, () -> x.part(a, bad));
@@ -399,7 +399,7 @@ public final class BoundaryTests extends Checks {
                     refused(x, "part(" + none + ", " + bad + ")", INDEX, () -> x.part(none, bad));
                 }
             }
-            TowerFields y = full(1);
+            Tower y = full(1);
             top120(y, "part(0, " + bad + ")", () -> y.part(0, bad));
             refused(y, "part(120, " + bad + ") at 120", INDEX, () -> y.part(MOST, bad));
             refused(y, "part(-1, " + bad + ") at 120", INDEX, () -> y.part(-1, bad));
@@ -419,7 +419,7 @@ public final class BoundaryTests extends Checks {
 
     private static void promise15() {
         looks("constant", (x, a) -> x.constant(a) ? 1 : 0, 0, 1);
-        TowerFields x = full(2);
+        Tower x = full(2);
         due("constant of t at 120", x.constant(3), false);
         due("constant of 0 at 120", x.constant(4), true);
         due("constant of x, the 120th", x.constant(119), false);
@@ -428,7 +428,7 @@ public final class BoundaryTests extends Checks {
     private static void promise16() {
         looks("low", (x, a) -> x.low(a) ? 1 : 0, 1, 1);
         for (int kind = 1; kind <= 2; kind++) {
-            TowerFields x = filled(kind, MOST - 1);
+            Tower x = filled(kind, MOST - 1);
             x.top();
             due("low of t at 120", x.low(3), false);
             due("low of t, the 120th", x.low(119), false);
@@ -437,7 +437,7 @@ public final class BoundaryTests extends Checks {
     }
 
     /** "powers aren't 0 .. 6, or another part", the element being there or not. */
-    private static void placesOutside(TowerFields x, int h) {
+    private static void placesOutside(Tower x, int h) {
         for (int bad : new int[] {-1, 7, -2, 8, 49, MIN, MAX}) {
             for (int good : new int[] {0, 6}) {
                 for (int part = 0; part <= 1; part++) {
@@ -465,7 +465,7 @@ public final class BoundaryTests extends Checks {
         looks("at: x^6 t^6 below", (x, a) -> x.at(a, 6, 6, 1), 0, 0);
         for (String letter : new String[] {"log 1x1", "exp 1x1"}) {
             Bench bench = new Bench(letter);
-            TowerFields x = bench.tower;
+            Tower x = bench.tower;
             int h = bench.make("2x6t6 + 3x6 + 5t6 + -1 / 1x6t6 + 7x6 + -2t6 + 11");
             due("above, x^6 t^6", x.at(h, 6, 6, 0), 2);
             due("above, x^6", x.at(h, 0, 6, 0), 3);
@@ -486,13 +486,13 @@ public final class BoundaryTests extends Checks {
             placesOutside(x, x.count() - 1);
         }
         placesOutside(full(1), 119);
-        TowerFields none = new TowerFields();
+        Tower none = new Tower();
         refused(none, "at of a new object", INDEX, () -> none.at(0, 7, 7, 2));
     }
 
     private static void promise18() {
         for (int kind = 0; kind <= 2; kind++) {
-            TowerFields x = new TowerFields();
+            Tower x = new Tower();
             due("count of a new object", x.count(), 0);
             for (int i = 0; i < MOST; i++) {
                 due("handle " + i, i == 60 && kind > 0 ? x.letter(kind, 59) : x.base(), i);
@@ -504,18 +504,6 @@ public final class BoundaryTests extends Checks {
             refused(x, "low", INDEX, () -> x.low(MOST) ? 1 : 0);
             due("count in the end", x.count(), MOST);
         }
-        lastOfManyCalls();
-    }
-
-    /** "used for at most 512 calls": the 512th answers as the first does. */
-    private static void lastOfManyCalls() {
-        TowerFields x = tower(1);
-        int calls = 4;
-        while (calls < 510) {
-            due("call " + ++calls, x.low(3), false);
-        }
-        due("call 511", x.derive(3), 4);
-        due("call 512", x.at(4, 0, 1, 1), 1);
     }
 
     public static void main(String[] args) {

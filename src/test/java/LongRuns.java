@@ -7,7 +7,7 @@ import java.util.TreeMap;
  * and an exponential. No object here is used longer than that.
  */
 public final class LongRuns extends Checks {
-    private static final int MOST_CALLS = 512;
+    private static final int MOST_CALLS = Tower.MOST_CALLS;
     private static final int MOST = 120;
     private static final int NUMBERS = 98;
 
@@ -120,9 +120,9 @@ public final class LongRuns extends Checks {
         LongRuns first = new LongRuns(run, kind);
         first.run(MOST_CALLS - NUMBERS, making, 8);
         for (int h = 0; h < first.match.model.count(); h++) {
-            TowerFields again = new TowerFields();
+            Tower again = new Tower();
             for (Made made : first.script) {
-                Match.answer(again, made.call, made.w);
+                again.answer(made.call, made.w);
             }
             for (int i = 0; i < NUMBERS; i++) {
                 int due = first.match.model.number(h, i / 2 / 7, i / 2 % 7, i % 2);

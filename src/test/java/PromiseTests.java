@@ -5,20 +5,20 @@ public final class PromiseTests extends Checks {
     private static final int FIFTH = 19202;
 
     private static void promise1() {
-        TowerFields x = new TowerFields();
+        Tower x = new Tower();
         due("count", x.count(), 0);
         refused(x, "top", ARGUMENT, () -> x.top());
         refused(x, "at", INDEX, () -> x.at(0, 0, 0, 0));
         refused(x, "low", INDEX, () -> x.low(0) ? 1 : 0);
         refused(x, "letter", INDEX, () -> x.letter(1, 0));
-        TowerFields y = tower(1);
+        Tower y = tower(1);
         due("count beside another object", x.count(), 0);
         due("count of the other", y.count(), 4);
         refused(x, "top beside another object", ARGUMENT, () -> x.top());
     }
 
     private static void promise2() {
-        TowerFields x = new TowerFields();
+        Tower x = new Tower();
         long[] values = {0, 1, 2, -1, 5, P, P + 1, -P, 2L * P + 7, 16001, Integer.MIN_VALUE, Integer.MAX_VALUE,
             Long.MAX_VALUE, Long.MIN_VALUE, -9000000000L};
         BigInteger prime = BigInteger.valueOf(P);
@@ -45,22 +45,22 @@ public final class PromiseTests extends Checks {
             refused(x, "number(1, " + b + ")", ARITHMETIC, () -> x.number(1, b));
             refused(x, "number(0, " + b + ")", ARITHMETIC, () -> x.number(0, b));
         }
-        TowerFields y = full(1);
+        Tower y = full(1);
         refused(y, "number at 120", STATE, () -> y.number(1, 1));
         refused(y, "number below 0 at 120", STATE, () -> y.number(1, 0));
     }
 
     private static void promise3() {
-        TowerFields x = new TowerFields();
+        Tower x = new Tower();
         element(x, "base", x.base(), "1x1", "1");
         element(x, "base again", x.base(), "1x1", "1");
         due("base's derivation is 1", text(x, x.derive(0), 0), "1");
-        TowerFields y = full(2);
+        Tower y = full(2);
         refused(y, "base at 120", STATE, () -> y.base());
     }
 
     private static void promise4() {
-        TowerFields x = new TowerFields();
+        Tower x = new Tower();
         x.base();
         n(x, 5);
         n(x, 0);
@@ -83,33 +83,33 @@ public final class PromiseTests extends Checks {
             refused(x, "letter twice of no element", INDEX, () -> x.letter(k, 4));
         }
         element(x, "the first letter stays", x.derive(3), "1t1", "1");
-        TowerFields y = new TowerFields();
+        Tower y = new Tower();
         while (y.count() < 120) {
             y.base();
         }
         refused(y, "letter at 120", STATE, () -> y.letter(1, 0));
         refused(y, "letter of no kind at 120", STATE, () -> y.letter(7, 0));
         refused(y, "letter of no element at 120", INDEX, () -> y.letter(1, 120));
-        TowerFields z = full(1);
+        Tower z = full(1);
         refused(z, "letter twice at 120", STATE, () -> z.letter(1, 0));
         lettersOfFractions();
         lettersWithGreatSlopes();
     }
 
     private static void lettersOfFractions() {
-        TowerFields x = new TowerFields();
+        Tower x = new Tower();
         x.base();
         n(x, 1);
         int e = x.over(0, x.add(0, 1));
         int t = x.letter(1, e);
         element(x, "derivation of log x/(x+1)", x.derive(t), "1", "1x2 + 1x1");
-        TowerFields y = new TowerFields();
+        Tower y = new Tower();
         y.base();
         n(y, 1);
         int f = y.over(1, 0);
         int u = y.letter(2, f);
         element(y, "derivation of exp 1/x", y.derive(u), "-1t1", "1x2");
-        TowerFields z = new TowerFields();
+        Tower z = new Tower();
         z.base();
         int v = z.letter(1, z.times(n(z, 7), z.times(0, z.times(0, 0))));
         element(z, "derivation of log 7xxx", z.derive(v), "3", "1x1");
@@ -118,7 +118,7 @@ public final class PromiseTests extends Checks {
     /** t itself isn't too great, though its derivation is. */
     private static void lettersWithGreatSlopes() {
         for (int kind = 1; kind <= 2; kind++) {
-            TowerFields x = new TowerFields();
+            Tower x = new Tower();
             x.base();
             int high = x.add(power(x, 0, 6), x.add(0, n(x, 1)));
             int e = x.over(high, x.add(power(x, 0, 5), n(x, 3)));
@@ -127,7 +127,7 @@ public final class PromiseTests extends Checks {
             refused(x, "its derivation", STATE, () -> x.derive(t));
             due("constant of it", x.constant(t), false);
         }
-        TowerFields y = new TowerFields();
+        Tower y = new Tower();
         y.base();
         int high = y.add(power(y, 0, 6), y.add(0, n(y, 1)));
         int t = y.letter(2, high);
@@ -135,7 +135,7 @@ public final class PromiseTests extends Checks {
     }
 
     private static void promise5() {
-        TowerFields x = new TowerFields();
+        Tower x = new Tower();
         x.base();
         refused(x, "top before", ARGUMENT, () -> x.top());
         refused(x, "a letter that is refused", ARGUMENT, () -> x.letter(3, 0));
@@ -143,9 +143,9 @@ public final class PromiseTests extends Checks {
         x.letter(1, 0);
         element(x, "top", x.top(), "1t1", "1");
         due("top is t", x.same(1, 2), true);
-        TowerFields y = full(1);
+        Tower y = full(1);
         refused(y, "top at 120", STATE, () -> y.top());
-        TowerFields z = new TowerFields();
+        Tower z = new Tower();
         while (z.count() < 120) {
             z.base();
         }
@@ -154,12 +154,12 @@ public final class PromiseTests extends Checks {
 
     /** What every call with two elements that makes one refuses. */
     private static void refusedPairs(String name, Pair pair) {
-        TowerFields x = tower(1);
+        Tower x = tower(1);
         for (int bad : new int[] {-1, 4, 120, Integer.MIN_VALUE, Integer.MAX_VALUE}) {
             refused(x, name + "(" + bad + ", 0)", INDEX, () -> pair.run(x, bad, 0));
             refused(x, name + "(0, " + bad + ")", INDEX, () -> pair.run(x, 0, bad));
         }
-        TowerFields y = full(2);
+        Tower y = full(2);
         refused(y, name + " at 120", STATE, () -> pair.run(y, 0, 119));
         refused(y, name + " of 0s at 120", STATE, () -> pair.run(y, 4, 4));
         refused(y, name + "(120, 0) at 120", INDEX, () -> pair.run(y, 120, 0));
@@ -167,7 +167,7 @@ public final class PromiseTests extends Checks {
     }
 
     private static void promise6() {
-        TowerFields x = tower(1);
+        Tower x = tower(1);
         element(x, "x + t", x.add(0, 3), "1t1 + 1x1", "1");
         element(x, "x + x", x.add(0, 0), "2x1", "1");
         int a = x.over(1, 3);
@@ -189,7 +189,7 @@ public final class PromiseTests extends Checks {
     }
 
     private static void promise7() {
-        TowerFields x = tower(2);
+        Tower x = tower(2);
         element(x, "x - t", x.less(0, 3), "-1t1 + 1x1", "1");
         element(x, "t - x", x.less(3, 0), "1t1 + -1x1", "1");
         element(x, "t - t", x.less(3, 3), "0", "1");
@@ -204,7 +204,7 @@ public final class PromiseTests extends Checks {
     }
 
     private static void promise8() {
-        TowerFields x = tower(1);
+        Tower x = tower(1);
         element(x, "x t", x.times(0, 3), "1x1t1", "1");
         int sum = x.add(0, 3);
         int difference = x.less(3, 0);
@@ -229,7 +229,7 @@ public final class PromiseTests extends Checks {
     }
 
     private static void promise9() {
-        TowerFields x = tower(1);
+        Tower x = tower(1);
         element(x, "x/t", x.over(0, 3), "1x1", "1t1");
         int zero = x.less(0, 0);
         due("x/0", x.over(0, zero), -1);
@@ -253,18 +253,18 @@ public final class PromiseTests extends Checks {
     }
 
     private static void refusedSingles(String name, Single single) {
-        TowerFields x = tower(2);
+        Tower x = tower(2);
         for (int bad : new int[] {-1, 4, 119, 120, Integer.MIN_VALUE, Integer.MAX_VALUE}) {
             refused(x, name + "(" + bad + ")", INDEX, () -> single.run(x, bad));
         }
-        TowerFields y = full(1);
+        Tower y = full(1);
         refused(y, name + " at 120", STATE, () -> single.run(y, 0));
         refused(y, name + " of 0 at 120", STATE, () -> single.run(y, 4));
         refused(y, name + "(120) at 120", INDEX, () -> single.run(y, 120));
     }
 
     private static void promise10() {
-        TowerFields x = tower(1);
+        Tower x = tower(1);
         element(x, "1'", x.derive(1), "0", "1");
         element(x, "(xx)'", x.derive(2), "2x1", "1");
         element(x, "(log x)'", x.derive(3), "1", "1x1");
@@ -276,7 +276,7 @@ public final class PromiseTests extends Checks {
         refused(x, "(1/t^6)'", STATE, () -> x.derive(back));
         int t6 = power(x, 3, 6);
         element(x, "(t^6)'", x.derive(t6), "6t5", "1x1");
-        TowerFields y = tower(2);
+        Tower y = tower(2);
         element(y, "(exp xx)'", y.derive(3), "2x1t1", "1");
         element(y, "(1/t)'", y.derive(y.over(1, 3)), "-2x1", "1t1");
         element(y, "(x/t)'", y.derive(y.over(0, 3)), "-2x2 + 1", "1t1");
@@ -285,14 +285,14 @@ public final class PromiseTests extends Checks {
         element(y, "(t^6)'", y.derive(t6y), "12x1t6", "1");
         int high = y.times(t6y, power(y, 0, 6));
         refused(y, "(x^6 t^6)'", STATE, () -> y.derive(high));
-        TowerFields z = new TowerFields();
+        Tower z = new Tower();
         z.base();
         element(z, "without t", z.derive(z.over(0, z.add(0, n(z, 1)))), "1", "1x2 + 2x1 + 1");
         refusedSingles("derive", (o, a) -> o.derive(a));
     }
 
     private static void promise11() {
-        TowerFields x = tower(1);
+        Tower x = tower(1);
         element(x, "of x", x.logarithmic(0), "1", "1x1");
         element(x, "of 1", x.logarithmic(1), "0", "1");
         element(x, "of t", x.logarithmic(3), "1", "1x1t1");
@@ -306,7 +306,7 @@ public final class PromiseTests extends Checks {
         int sum = x.add(3, power(x, 0, 6));
         int q = x.over(sum, x.add(0, 1));
         refused(x, "of (t + x^6)/(x + 1), with x^8 below", STATE, () -> x.logarithmic(q));
-        TowerFields y = tower(2);
+        Tower y = tower(2);
         element(y, "of exp xx", y.logarithmic(3), "2x1", "1");
         element(y, "of t^6", y.logarithmic(power(y, 3, 6)), "12x1", "1");
         element(y, "of t + 1", y.logarithmic(y.add(3, 1)), "2x1t1", "1t1 + 1");
@@ -314,7 +314,7 @@ public final class PromiseTests extends Checks {
     }
 
     private static void promise12() {
-        TowerFields x = tower(2);
+        Tower x = tower(2);
         int sum = x.add(3, 0);
         int tt = x.times(3, 3);
         int below = x.times(x.times(tt, 0), x.times(sum, x.times(sum, sum)));
@@ -342,7 +342,7 @@ public final class PromiseTests extends Checks {
         }
         partsOfLogarithm();
         refusedSingles("part", (o, h) -> o.part(h, 2));
-        TowerFields y = full(2);
+        Tower y = full(2);
         refused(y, "part of another kind at 120", STATE, () -> y.part(0, 5));
     }
 
@@ -352,7 +352,7 @@ public final class PromiseTests extends Checks {
     }
 
     private static void partsOfLogarithm() {
-        TowerFields x = tower(1);
+        Tower x = tower(1);
         int tt = x.times(3, 3);
         int a = x.over(0, x.times(tt, x.add(3, 1)));
         element(x, "log: each once", x.part(a, 2), "1t2 + 1t1", "1");
@@ -361,7 +361,7 @@ public final class PromiseTests extends Checks {
         int square = x.add(tt, 0);
         int b = x.over(1, x.times(square, square));
         element(x, "log: each once of a square", x.part(b, 2), "1t2 + 1x1", "1");
-        TowerFields y = new TowerFields();
+        Tower y = new Tower();
         y.base();
         int c = y.over(0, y.add(0, n(y, 1)));
         element(y, "before t: below", y.part(c, 1), "1x1 + 1", "1");
@@ -371,7 +371,7 @@ public final class PromiseTests extends Checks {
     }
 
     private static void promise13() {
-        TowerFields x = tower(1);
+        Tower x = tower(1);
         int sum = x.add(3, 0);
         int square = x.times(sum, sum);
         int twice = x.times(n(x, 2), x.times(sum, 0));
@@ -396,7 +396,7 @@ public final class PromiseTests extends Checks {
     }
 
     /** Two polynomials that have nothing in common, but do at x = 0, 1 and 2. */
-    private static void unluckyCommon(TowerFields x) {
+    private static void unluckyCommon(Tower x) {
         int t = 3;
         int product = x.times(0, x.times(x.less(0, 1), x.less(0, n(x, 2))));
         int a = x.times(x.add(t, product), x.add(t, 1));
@@ -409,7 +409,7 @@ public final class PromiseTests extends Checks {
 
     /** The number at the heads is 2 at x = 0 and at x = 1. */
     private static void headsThatRepeat() {
-        TowerFields x = tower(1);
+        Tower x = tower(1);
         int one = x.add(3, 1);
         int head = x.times(x.add(x.less(2, 0), n(x, 2)), 3);
         int a = x.times(one, x.add(head, 1));
@@ -418,14 +418,14 @@ public final class PromiseTests extends Checks {
     }
 
     /** c2 xx + c1 x + c0, from the three numbers. */
-    private static int quadratic(TowerFields x, int[] c) {
+    private static int quadratic(Tower x, int[] c) {
         int h = x.add(x.times(n(x, c[2]), 0), n(x, c[1]));
         return x.add(x.times(h, 0), n(x, c[0]));
     }
 
     /** Two products of three factors t - f: at each x from 0 to 13 one f of the first is one of the second. */
     private static void unluckyEverywhere() {
-        TowerFields x = tower(2);
+        Tower x = tower(2);
         int[][] first = {{0, 0, 0}, {11183, 17296, 23355}, {16523, 5142, 30277}};
         int[][] second = {{0, 8621, 2598}, {16367, 5193, 30274}, {22514, 14694, 1}};
         int a = 1;
@@ -441,7 +441,7 @@ public final class PromiseTests extends Checks {
 
     /** The same with heads: ((xx+1) t - f1)(t - f2) and ((xx+1) t - g1)(t - g2) meet at each x from 0 to 9. */
     private static void unluckyHeads() {
-        TowerFields x = tower(1);
+        Tower x = tower(1);
         int[][] f = {{12616, 10683, 17718}, {12265, 9721, 7568}, {12616, 19365, 8632}, {1, 4504, 2}};
         int head = x.times(x.add(2, 1), 3);
         int a = x.times(x.less(head, quadratic(x, f[0])), x.less(3, quadratic(x, f[1])));
@@ -452,7 +452,7 @@ public final class PromiseTests extends Checks {
     }
 
     private static void promise14() {
-        TowerFields x = tower(1);
+        Tower x = tower(1);
         due("t and t once more", x.same(3, x.top()), true);
         due("one handle", x.same(0, 0), true);
         due("x and t", x.same(0, 3), false);
@@ -474,14 +474,14 @@ public final class PromiseTests extends Checks {
             refused(x, "same(" + bad + ", 0)", INDEX, () -> x.same(bad, 0) ? 1 : 0);
             refused(x, "same(0, " + bad + ")", INDEX, () -> x.same(0, bad) ? 1 : 0);
         }
-        TowerFields y = full(1);
+        Tower y = full(1);
         due("same at 120", y.same(0, 119), true);
         refused(y, "same(0, 120) at 120", INDEX, () -> y.same(0, 120) ? 1 : 0);
     }
 
     private static void promise15() {
         for (int kind = 1; kind <= 2; kind++) {
-            TowerFields x = tower(kind);
+            Tower x = tower(kind);
             due("1", x.constant(1), true);
             due("x", x.constant(0), false);
             due("t", x.constant(3), false);
@@ -496,13 +496,13 @@ public final class PromiseTests extends Checks {
                 refused(x, "constant(" + bad + ")", INDEX, () -> x.constant(bad) ? 1 : 0);
             }
         }
-        TowerFields y = full(2);
+        Tower y = full(2);
         due("constant at 120", y.constant(4), true);
         due("constant of x at 120", y.constant(119), false);
     }
 
     private static void promise16() {
-        TowerFields x = tower(2);
+        Tower x = tower(2);
         due("x", x.low(0), true);
         due("1", x.low(1), true);
         due("t", x.low(3), false);
@@ -515,13 +515,13 @@ public final class PromiseTests extends Checks {
         for (int bad : new int[] {-1, x.count(), Integer.MIN_VALUE, Integer.MAX_VALUE}) {
             refused(x, "low(" + bad + ")", INDEX, () -> x.low(bad) ? 1 : 0);
         }
-        TowerFields y = full(1);
+        Tower y = full(1);
         due("low at 120", y.low(119), true);
         refused(y, "low(120) at 120", INDEX, () -> y.low(120) ? 1 : 0);
     }
 
     private static void promise17() {
-        TowerFields x = tower(1);
+        Tower x = tower(1);
         int a = x.over(x.add(x.times(0, n(x, 4)), 3), x.times(x.times(0, 0), x.times(3, n(x, 5))));
         due("above 1", x.at(a, 0, 1, 0), 4 * FIFTH % P);
         due("above t", x.at(a, 1, 0, 0), FIFTH);
@@ -541,13 +541,13 @@ public final class PromiseTests extends Checks {
             refused(x, "part " + bad, ARGUMENT, () -> x.at(b, 0, 0, bad));
             refused(x, "part at no element", INDEX, () -> x.at(x.count(), 0, 0, bad));
         }
-        TowerFields y = full(1);
+        Tower y = full(1);
         due("at of 119", y.at(119, 0, 1, 0), 1);
         refused(y, "at of 120", INDEX, () -> y.at(120, 0, 1, 0));
     }
 
     private static void promise18() {
-        TowerFields x = new TowerFields();
+        Tower x = new Tower();
         for (int i = 0; i < 120; i++) {
             due("count before " + i, x.count(), i);
             due("handle " + i, i == 1 ? x.letter(1, 0) : i % 2 == 0 ? x.base() : x.add(0, i - 1), i);
@@ -555,7 +555,7 @@ public final class PromiseTests extends Checks {
         due("count at the end", x.count(), 120);
         refused(x, "one more", STATE, () -> x.base());
         due("count after a refused call", x.count(), 120);
-        TowerFields y = tower(1);
+        Tower y = tower(1);
         int zero = y.less(0, 0);
         y.over(0, zero);
         y.logarithmic(zero);

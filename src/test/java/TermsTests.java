@@ -16,7 +16,7 @@ public final class TermsTests extends Checks {
     private static final Pair[] FOUR = {(x, a, b) -> x.add(a, b), (x, a, b) -> x.less(a, b), (x, a, b) -> x.times(a, b),
         (x, a, b) -> x.over(a, b)};
 
-    private static boolean isOne(TowerFields x, int h) {
+    private static boolean isOne(Tower x, int h) {
         return text(x, h, 0).equals("1") && text(x, h, 1).equals("1");
     }
 
@@ -27,7 +27,7 @@ public final class TermsTests extends Checks {
     // ---- "the one below is monic, and no polynomial but numbers divides both"
 
     /** The number at the highest power of t, of those with the highest power of x. */
-    private static int head(TowerFields x, int h, int part) {
+    private static int head(Tower x, int h, int part) {
         for (int i = 48; i >= 0; i--) {
             int number = x.at(h, i / 7, i % 7, part);
             if (number != 0) {
@@ -37,7 +37,7 @@ public final class TermsTests extends Checks {
         return 0;
     }
 
-    private static void inLowestTerms(String what, TowerFields x, int h) {
+    private static void inLowestTerms(String what, Tower x, int h) {
         due(what + ": head below", head(x, h, 1), 1);
         int both = x.common(x.part(h, 0), x.part(h, 1));
         due(what + ": what divides both is 1", isOne(x, both), true);
@@ -89,7 +89,7 @@ public final class TermsTests extends Checks {
         for (String first : WITHOUT_T) {
             for (String second : WITHOUT_T) {
                 Bench bench = new Bench(NONE);
-                TowerFields x = bench.tower;
+                Tower x = bench.tower;
                 int a = bench.make(first);
                 int b = bench.make(second);
                 refused(x, "top", ARGUMENT, () -> x.top());
@@ -113,7 +113,7 @@ public final class TermsTests extends Checks {
 
     private static void slopesOfPair(String letter, String first, String second) {
         Bench bench = new Bench(letter);
-        TowerFields x = bench.tower;
+        Tower x = bench.tower;
         int a = bench.make(first);
         int b = bench.make(second);
         int slopeA = x.derive(a);
@@ -151,7 +151,7 @@ public final class TermsTests extends Checks {
     private static void slopesOfLetters() {
         for (String letter : MANY_LETTERS) {
             Bench bench = new Bench(letter);
-            TowerFields x = bench.tower;
+            Tower x = bench.tower;
             int e = bench.make(letter.substring(4));
             int slope = x.derive(bench.t);
             if (letter.startsWith("log")) {
@@ -170,18 +170,18 @@ public final class TermsTests extends Checks {
     // ---- normal and special
 
     /** "nothing but polynomials without t divides both p and its derivation (times what is below in that)". */
-    private static boolean isNormal(TowerFields x, int p) {
+    private static boolean isNormal(Tower x, int p) {
         return x.low(x.common(p, x.derive(p)));
     }
 
     /** "p divides its derivation so". */
-    private static boolean isSpecial(TowerFields x, int p) {
+    private static boolean isSpecial(Tower x, int p) {
         return x.low(x.part(x.over(x.derive(p), p), 1));
     }
 
     private static void eachFactor(String letter, String factor) {
         Bench bench = new Bench(letter);
-        TowerFields x = bench.tower;
+        Tower x = bench.tower;
         int p = bench.make(factor);
         int under = x.over(x.add(bench.x, n(x, 9)), p);
         boolean special = isSpecial(x, p);
@@ -196,7 +196,7 @@ public final class TermsTests extends Checks {
     /** Two factors, one of them twice, and one without t: below in one element. */
     private static void twoFactors(String letter, String first, String second) {
         Bench bench = new Bench(letter);
-        TowerFields x = bench.tower;
+        Tower x = bench.tower;
         int p = bench.make(first);
         int q = bench.make(second);
         int one = x.over(p, p);
@@ -228,7 +228,7 @@ public final class TermsTests extends Checks {
 
     /** As README.md has it. */
     private static void example() {
-        TowerFields f = new TowerFields();
+        Tower f = new Tower();
         int x = f.base();
         int t = f.letter(1, x);
         int q = f.over(x, t);
