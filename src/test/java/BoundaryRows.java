@@ -29,6 +29,12 @@ public final class BoundaryRows extends Checks {
         turned("add", "1x1 / 1x6 + 1", "1 / 1x6 + 1", "1x1 + 1 / 1x6 + 1");
         turned("add", "1x6 / 1x1 + 1", "1x5 / 1x1 + 1", "1x5 / 1");
         turned("add", "1 / 1x6 + 1x5", "1 / 1x6 + -1x5", "2 / 1x6 + -1x4");
+        for (String letter : BOTH) {
+            // Below stands t to the 12th at first, and x divides all the rest there.
+            row(letter, "add", "1x1 / 1t6 + 1x1", "1x1 / 1t6 + 1x1", "2x1 / 1t6 + 1x1");
+            row(letter, "add", "1x1 / 1t6 + 1x1", "1x2 / 1t6 + 1x1", "1x2 + 1x1 / 1t6 + 1x1");
+            row(letter, "add", "1t6 / 1t6 + 1x1", "1x1 / 1t6 + 1x1", "1 / 1");
+        }
     }
 
     private static void sumsOfZero() {
